@@ -166,6 +166,14 @@ public final class CallsTest {
     Check.same("its source is attacked", attacks.advise(0, 25), 1);
     Check.same("another claim is attacked", attacks.advise(0, 9), 2);
     Check.same("nothing in reach", attacks.advise(0, 4), -1);
+    Check.same("with the least force", Check.hall("speaker a; speaker b; claim c by b weight 2;").advise(0, 1), 0);
+    DebateHall weak = Check.hall("speaker a; speaker b; claim c by a weight 20; claim d by b weight 50;"
+        + "attack x from d on c force 9;");
+    Check.same("what counts nothing is struck for nothing", weak.advise(0, 9), -1);
+    DebateHall own = Check.hall(spoiling(2, 1));
+    Check.same("the own attack that spoils is not for advice", own.advise(0, 1), 4);
+    Check.same("nor is anything without others", Check.hall("speaker a; claim c by a; claim d by a; concede c;")
+        .advise(0, 50), -1);
     DebateHall third = Check.hall("speaker a; speaker b; speaker c time 3600; claim d by a; claim e by b;");
     Check.same("nothing when a third one leads", third.advise(0, 50), -1);
     Check.same("what is out already", Check.hall("speaker a; speaker b; claim d by b; concede d;").advise(0, 50), -1);
@@ -203,6 +211,8 @@ public final class CallsTest {
     Check.same("of open ones", Check.hall(FOUR + "attack x from e on f; attack y from f on e;").frees(2), 4);
     Check.outOfBounds("frees -1", () -> hall.frees(-1));
     Check.outOfBounds("frees 8", () -> hall.frees(8));
+    Check.same("by the first item", Check.hall(FOUR + "attack x from c on d;").frees(1), 1);
+    Check.same("by the first item and another", Check.hall(FOUR + "attack x from c on d; attack y from e on d;").frees(1), 103);
     outOnesAreTriedToo();
   }
 
@@ -251,6 +261,13 @@ public final class CallsTest {
       due.append(n == 30 ? "otheritm other in\n" : "").append("longna").append(n).append(" speaker1 in\n");
     }
     Check.same("a sheet of 40 items", Check.paper(hall), due.toString());
+    DebateHall open = Check.hall("speaker speaker1 time 900; speaker speaker2; claim claim111 by speaker1;"
+        + "claim claim222 by speaker2; attack attack11 from claim111 on claim222; attack attack22 from claim222 on claim111;");
+    for (int n = 11; n < 47; n++) {
+      Check.tell(open, "support suppor" + n + " from claim111 for claim111;");
+    }
+    Check.same("the longest sheet", open.sheet(), 920);
+    Check.same("its last bytes", Check.paper(open).substring(897), "suppor46 speaker1 open\n");
   }
 
   private static void share() {

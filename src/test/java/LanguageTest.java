@@ -47,6 +47,8 @@ public final class LanguageTest {
     Check.same("trim to as much", hall.trim(2000), 2000);
     Check.same("trim by one", hall.trim(1999), 1999);
     Check.gives("feed with room for 1", () -> hall.feed(0, 0, 0, 0, 0), "IllegalStateException");
+    Check.same("trim by 19", hall.trim(1981), 1981);
+    Check.gives("feed with room for 19", () -> hall.feed(0, 0, 0, 0, 0), "IllegalStateException");
     Check.same("trim by 20", hall.trim(1980), 1980);
     Check.same("feed with room for 20", hall.feed(0, 0, 0, 0, 0), 2000);
     Check.same("trim to nothing", hall.trim(0), 0);

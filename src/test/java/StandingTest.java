@@ -45,6 +45,24 @@ public final class StandingTest {
     Check.same("an attack is attacked", facts(hall, 5), "1 1 1 1 2 1 1");
     Check.same("rounds of it", facts(hall, 6), "1 1 1 4 3 2 5");
     Check.same("rounds of no items", Check.hall("speaker a;").count(9), 0);
+    DebateHall two = Check.hall("speaker a; speaker b; claim c by a; claim d by b; attack x from c on d;");
+    Check.same("rounds before a circle", facts(two, 6) + " of " + two.count(9), "1 3 2 of 3");
+    Check.tell(two, "attack y from d on c;");
+    Check.same("no rounds then", facts(two, 6) + " of " + two.count(9), "0 0 0 0 of 0");
+    mostRounds();
+  }
+
+  /** Each claim attacks the next one; each item is found in a round of its own. */
+  private static void mostRounds() {
+    DebateHall hall = Check.hall("speaker a time 900; speaker b time 900; claim c1 by a weight 1;");
+    for (int n = 2; n <= 20; n++) {
+      Check.tell(hall, "claim c" + n + (n % 2 == 0 ? " by b" : " by a") + " weight 1;"
+          + "attack x" + n + " from c" + (n - 1) + " on c" + n + " force 1;");
+    }
+    Check.tell(hall, "support s from c20 for c20;");
+    Check.same("40 rounds", hall.count(9), 40);
+    Check.same("the last one's round", hall.item(39, 6), 40);
+    Check.same("the last one is out", hall.item(39, 5), 2);
   }
 
   private static void circles() {
